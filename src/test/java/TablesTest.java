@@ -10,6 +10,7 @@ public final class TablesTest {
         fields();
         functions();
         lists();
+        fullLists();
         elements();
         operations();
         operands();
@@ -110,6 +111,21 @@ public final class TablesTest {
             Check.due("listed(0, " + far + ", 0)", x.listed(0, far, 0), 0);
             Check.due("listed(0, 0, " + far + ")", x.listed(0, 0, far), 0);
         }
+    }
+
+    private static void fullLists() {
+        CodeTables x = Bytes.typed(Bytes.module(Bytes.of(0, 0, 0, 0, 1, 0, 8), Bytes.repeated(8, 1),
+            Bytes.of(8), Bytes.repeated(8, 2), Bytes.of(32), Bytes.repeated(32, 3), Bytes.of(0, 2, 1, 1)));
+        Check.due("full lists: read()", x.read(), 0);
+        int[] counts = {8, 8, 32, 0};
+        for (int list = 0; list <= 3; list++) {
+            for (int i = 0; i <= 32; i++) {
+                long due = i < counts[list] ? list + 1 : 0;
+                Check.due("full lists: listed(0, " + list + ", " + i + ")", x.listed(0, list, i), due);
+            }
+            Check.due("full lists: listed(0, " + list + ", -1)", x.listed(0, list, -1), 0);
+        }
+        Check.due("full lists: listed(0, -1, 0)", x.listed(0, -1, 0), 0);
     }
 
     private static void elements() {
