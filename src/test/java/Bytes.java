@@ -32,6 +32,15 @@ final class Bytes {
         return all;
     }
 
+    /** Eight bytes, the higher ones first. */
+    static byte[] longs(long value) {
+        byte[] row = new byte[8];
+        for (int i = 0; i < 8; i++) {
+            row[i] = (byte) (value >>> 56 - 8 * i);
+        }
+        return row;
+    }
+
     static byte[] with(byte[] row, int place, int value) {
         byte[] changed = row.clone();
         changed[place] = (byte) value;
@@ -45,11 +54,6 @@ final class Bytes {
     /** The mark and the number 7; behind them the given rows. */
     static byte[] module(byte[]... rows) {
         return join(of(82, 76, 77, 49, 0, 7), join(rows));
-    }
-
-    /** A module of one function without locals, and of these instructions; its code begins at place 17. */
-    static byte[] code(int instructions, int... values) {
-        return module(of(0, 0, 0, 0, 1, 0, 0, 0, 0), of(instructions >> 8, instructions), of(values));
     }
 
     static void type(CodeTables x, byte[] row) {

@@ -3,8 +3,6 @@ import java.util.List;
 
 /** Asks for everything that can be told of a module, and compares the answers with the reference's. */
 final class Comparison {
-    static final int CALLS = 512;
-
     private Comparison() {
     }
 
@@ -25,12 +23,12 @@ final class Comparison {
         CodeTables x = null;
         int calls = 0;
         for (Question question : questions) {
-            if (x == null || calls == CALLS) {
+            if (x == null || calls == Reading.CALLS) {
                 x = Bytes.typed(module);
                 Check.due(name + ": read()", x.read(), 0);
                 Check.due(name + ": place()", x.place(), module.length);
                 Check.due(name + ": write()", x.write(), module.length);
-                calls = (module.length + 7) / 8 + 3;
+                calls = Reading.calls(module) + 3;
             }
             question.ask(x);
             calls++;

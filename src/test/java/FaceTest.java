@@ -14,8 +14,11 @@ public final class FaceTest {
     };
 
     public static void main(String[] args) {
+        Check.sentence("The public face", "public static final int BAD = -1;");
         Check.due("BAD", CodeTables.BAD, -1);
+        Check.sentence("The public face", "public static final int FULL = -3;");
         Check.due("FULL", CodeTables.FULL, -3);
+        Check.sentence("The public face", "public final class CodeTables");
         Check.holds("the class is public and final",
             (CodeTables.class.getModifiers() & (Modifier.PUBLIC | Modifier.FINAL)) == (Modifier.PUBLIC | Modifier.FINAL));
         methods();
@@ -50,6 +53,7 @@ public final class FaceTest {
     }
 
     private static void constructorsAndFields() {
+        Check.sentence("The public face", "public CodeTables();");
         Constructor<?>[] constructors = CodeTables.class.getDeclaredConstructors();
         Check.due("how many constructors", constructors.length, 1);
         Check.holds("it is public", Modifier.isPublic(constructors[0].getModifiers()));

@@ -1,335 +1,364 @@
-/** Each fault with its place, the edges next to it, and the order in which faults are looked for. */
+/** The faults 1 to 14, sentence by sentence: each with its place, and what stands next to it and is none. */
 public final class FaultsTest {
+    private static final int[] OF_STRUCTURES = {16, 17, 21, 22, 47, 48, 49, 50, 51};
+
     public static void main(String[] args) {
-        marks();
-        ends();
-        counts();
-        abilitiesAndFlags();
-        instructionCounts();
-        types();
-        operations();
+        wrongMark();
+        placesFromZero();
+        endsEarly();
+        outOfBounds();
+        noType();
+        noOperation();
         bytesBehind();
-        structureNumbers();
-        ownStructures();
-        fieldNumbers();
-        localNumbers();
-        functionNumbers();
-        elementNumbers();
-        branches();
+        noStructure();
+        foreignStructure();
+        noField();
+        noLocal();
+        localsAreTakenAndFurther();
+        noFunction();
+        noElement();
+        noInstruction();
         circles();
-        order();
+        circlesInVectors();
+        firstCircle();
+        ownCircles();
         Check.end();
     }
 
-    private static void fault(String name, int why, int place, byte[] row) {
-        CodeTables x = Bytes.typed(row);
-        Check.due(name + ": read()", x.read(), -why);
-        Check.due(name + ": place()", x.place(), place);
-        Check.due(name + ": told(0)", x.told(0), CodeTables.BAD);
-        Check.due(name + ": write()", x.write(), CodeTables.BAD);
-    }
-
-    private static void fine(String name, byte[] row) {
-        CodeTables x = Bytes.typed(row);
-        Check.due(name + ": read()", x.read(), 0);
-        Check.due(name + ": place()", x.place(), row.length);
-        Check.due(name + ": write()", x.write(), row.length);
-    }
-
-    private static void marks() {
+    private static void wrongMark() {
+        Check.sentence("Terms", "1 one of the four first bytes is another one, there.");
+        int[] mark = {82, 76, 77, 49};
         for (int i = 0; i < 4; i++) {
-            fault("mark, byte " + i, 1, i, Bytes.with(Sample.bytes(), i, 0));
-            fault("mark, byte " + i + " at the end", 1, i, Bytes.cut(Bytes.with(Sample.bytes(), i, 50), i + 1));
-        }
-        fault("mark, two wrong bytes", 1, 1, Bytes.of(82, 0, 77, 0));
-    }
-
-    private static void ends() {
-        byte[] row = Sample.bytes();
-        for (int length = 0; length < row.length; length++) {
-            fault("the sample cut to " + length, 2, length, Bytes.cut(row, length));
-        }
-        fault("half a count of instructions, too many by its half", 2, 16, Bytes.cut(Bytes.code(0x1000), 16));
-    }
-
-    private static void counts() {
-        fine("32 structures", Bytes.module(Bytes.of(32), Bytes.repeated(32, 0, 1, 1), Bytes.of(0, 0, 0, 0)));
-        fault("33 structures", 3, 6, Bytes.module(Bytes.of(33), Bytes.repeated(33, 0, 1, 1), Bytes.of(0, 0, 0, 0)));
-        fault("255 structures", 3, 6, Bytes.module(Bytes.of(255)));
-        fine("16 fields", Bytes.module(Bytes.of(1, 0, 16), Bytes.repeated(16, 2), Bytes.of(0, 0, 0, 0)));
-        fault("17 fields", 3, 8, Bytes.module(Bytes.of(1, 0, 17), Bytes.repeated(17, 2), Bytes.of(0, 0, 0, 0)));
-        fault("0 fields", 3, 8, Bytes.module(Bytes.of(1, 0, 0, 0, 0, 0, 0)));
-        fine("32 foreign structures", Bytes.module(Bytes.of(0, 32), Bytes.repeated(32, 0, 1, 2, 3), Bytes.of(0, 0, 0)));
-        fault("33 foreign structures", 3, 7, Bytes.module(Bytes.of(0, 33), Bytes.repeated(33, 0, 1, 2, 3), Bytes.of(0, 0, 0)));
-        fine("32 foreign functions", Bytes.module(Bytes.of(0, 0, 32), Bytes.repeated(32, 0, 1, 2, 3, 0, 0), Bytes.of(0, 0)));
-        fault("33 foreign functions", 3, 8, Bytes.module(Bytes.of(0, 0, 33), Bytes.repeated(33, 0, 1, 2, 3, 0, 0), Bytes.of(0, 0)));
-        fine("32 element types", Bytes.module(Bytes.of(0, 0, 0, 32), Bytes.repeated(32, 5), Bytes.of(0)));
-        fault("33 element types", 3, 9, Bytes.module(Bytes.of(0, 0, 0, 33), Bytes.repeated(33, 5), Bytes.of(0)));
-        fine("64 functions", Bytes.module(Bytes.of(0, 0, 0, 0, 64), Bytes.repeated(64, 0, 0, 0, 0, 0, 1, 1)));
-        fault("65 functions", 3, 10, Bytes.module(Bytes.of(0, 0, 0, 0, 65), Bytes.repeated(65, 0, 0, 0, 0, 0, 1, 1)));
-        listCounts();
-        fine("a new vector of 64", withElements(52, 0, 64));
-        fault("a new vector of 65", 3, 20, withElements(52, 0, 65));
-    }
-
-    private static void listCounts() {
-        byte[] eight = Bytes.repeated(8, 8, 3);
-        byte[] nine = Bytes.repeated(9, 8, 3);
-        byte[] code = Bytes.of(0, 1, 1);
-        byte[] own = Bytes.of(0, 0, 0, 0, 1, 0);
-        fine("8 taken, 8 given, 32 locals", Bytes.module(own, Bytes.of(8), eight, Bytes.of(8), eight,
-            Bytes.of(32), Bytes.repeated(32, 9, 5), code));
-        fault("9 taken", 3, 12, Bytes.module(own, Bytes.of(9), nine, Bytes.of(0, 0), code));
-        fault("9 given", 3, 13, Bytes.module(own, Bytes.of(0, 9), nine, Bytes.of(0), code));
-        fault("33 locals", 3, 14, Bytes.module(own, Bytes.of(0, 0, 33), Bytes.repeated(33, 1), code));
-        byte[] foreign = Bytes.of(0, 0, 1, 0, 1, 2, 0);
-        fine("foreign: 8 taken, 8 given", Bytes.module(foreign, Bytes.of(8), eight, Bytes.of(8), eight, Bytes.of(0, 0)));
-        fault("foreign: 9 taken", 3, 13, Bytes.module(foreign, Bytes.of(9), nine, Bytes.of(0, 0, 0)));
-        fault("foreign: 9 given", 3, 14, Bytes.module(foreign, Bytes.of(0, 9), nine, Bytes.of(0, 0)));
-    }
-
-    private static void abilitiesAndFlags() {
-        fine("abilities 15", Bytes.module(Bytes.of(1, 15, 1, 1, 0, 0, 0, 0)));
-        fault("abilities 16", 3, 7, Bytes.module(Bytes.of(1, 16, 1, 1, 0, 0, 0, 0)));
-        fault("abilities 255", 3, 7, Bytes.module(Bytes.of(1, 255, 1, 1, 0, 0, 0, 0)));
-        fine("foreign abilities 15", Bytes.module(Bytes.of(0, 1, 0, 0, 0, 15, 0, 0, 0)));
-        fault("foreign abilities 16", 3, 11, Bytes.module(Bytes.of(0, 1, 0, 0, 0, 16, 0, 0, 0)));
-        fine("flags 7", Bytes.module(Bytes.of(0, 0, 0, 0, 1, 7, 0, 0, 0, 0, 1, 1)));
-        fault("flags 8", 3, 11, Bytes.module(Bytes.of(0, 0, 0, 0, 1, 8, 0, 0, 0, 0, 1, 1)));
-        fine("foreign flags 7", Bytes.module(Bytes.of(0, 0, 1, 0, 0, 0, 7, 0, 0, 0, 0)));
-        fault("foreign flags 8", 3, 12, Bytes.module(Bytes.of(0, 0, 1, 0, 0, 0, 8, 0, 0, 0, 0)));
-    }
-
-    private static void instructionCounts() {
-        fault("0 instructions", 3, 15, Bytes.code(0));
-        fine("1 instruction", Bytes.code(1, 1));
-        fine("1024 instructions", Bytes.join(Bytes.code(1024), Bytes.repeated(1024, 0)));
-        fault("1025 instructions", 3, 15, Bytes.join(Bytes.code(1025), Bytes.repeated(1025, 0)));
-        fault("65535 instructions", 3, 15, Bytes.code(65535));
-        byte[] function = Bytes.join(Bytes.of(0, 0, 0, 0, 4, 0), Bytes.repeated(1024, 0));
-        byte[] eight = Bytes.join(function, function, function, function, function, function, function, function);
-        byte[] one = Bytes.of(0, 0, 0, 0, 0, 1, 0);
-        fine("8192 instructions in all", Bytes.module(Bytes.of(0, 0, 0, 0, 8), eight));
-        fault("8193 instructions in all", 3, 11 + 8 * 1030 + 4, Bytes.module(Bytes.of(0, 0, 0, 0, 9), eight, one));
-    }
-
-    private static void types() {
-        int[] wrong = {0, 8, 9, 10, 255};
-        for (int type : wrong) {
-            fault("a field's type " + type, 4, 9, Bytes.module(Bytes.of(1, 0, 1, type, 3, 0, 0, 0, 0)));
-            fault("an element type " + type, 4, 10, Bytes.module(Bytes.of(0, 0, 0, 1, type, 3, 0)));
-            fault("a vector of " + type, 4, 11, Bytes.module(Bytes.of(0, 0, 0, 1, 7, type, 3, 0)));
-            fault("a reference to " + type, 4, 14, taking(8, type, 3));
-            fault("a writing reference to " + type, 4, 14, taking(9, type, 3));
-            fault("a vector in a list of " + type, 4, 14, taking(7, type, 3));
-        }
-        fault("a listed type 0", 4, 13, taking(0));
-        fault("a listed type 10", 4, 13, taking(10));
-        for (int type = 1; type <= 5; type++) {
-            fine("an element type " + type, Bytes.module(Bytes.of(0, 0, 0, 1, type, 0)));
-            fine("a reference to " + type, taking(8, type));
-            fine("a writing reference to four vectors of " + type, taking(9, 7, 7, 7, 7, type));
-        }
-        fine("four vectors", Bytes.module(Bytes.of(0, 0, 0, 1, 7, 7, 7, 7, 3, 0)));
-        fault("five vectors", 4, 14, Bytes.module(Bytes.of(0, 0, 0, 1, 7, 7, 7, 7, 7, 3, 0)));
-        fault("a reference to five vectors", 4, 18, taking(8, 7, 7, 7, 7, 7, 3));
-        fault("a type ends", 2, 12, Bytes.module(Bytes.of(0, 0, 0, 1, 7, 6)));
-        fault("a reference ends", 2, 14, Bytes.cut(taking(8, 3), 14));
-        referencesInEveryList();
-    }
-
-    private static void referencesInEveryList() {
-        fine("references in a foreign function's lists", Bytes.module(Bytes.of(0, 0, 1, 0, 1, 2, 0, 1, 8, 1, 1, 9, 2, 0, 0)));
-        fine("references in a function's lists", Bytes.module(Bytes.of(0, 0, 0, 0, 1, 0, 1, 8, 1, 1, 9, 2, 1, 8, 3, 0, 1, 1)));
-    }
-
-    /** A module of one function that takes one thing, of this type; the type begins at place 13. */
-    private static byte[] taking(int... type) {
-        return Bytes.module(Bytes.of(0, 0, 0, 0, 1, 0, 1), Bytes.of(type), Bytes.of(0, 0, 0, 1, 1));
-    }
-
-    private static void operations() {
-        fine("operation 59", Bytes.code(1, 59));
-        fault("operation 60", 5, 17, Bytes.code(1, 60));
-        fault("operation 255", 5, 17, Bytes.code(1, 255));
-        fault("operation 128 behind others", 5, 20, Bytes.code(3, 5, 255, 0, 128));
-        for (int operation = 0; operation <= 59; operation++) {
-            int size = operandBytes(operation);
-            byte[] row = Bytes.join(operands(operation), Bytes.repeated(size, 0));
-            fine("operation " + operation, row);
-            fault("operation " + operation + ", a byte less", 2, row.length - 1, Bytes.cut(row, row.length - 1));
-            fault("operation " + operation + ", a byte more", 6, row.length, Bytes.join(row, Bytes.of(0)));
-        }
-    }
-
-    /** A module in which number 0 names something of every kind; the operation is its last byte. */
-    private static byte[] operands(int operation) {
-        return Bytes.module(Bytes.of(1, 0, 1, 1, 0, 0, 1, 1, 1, 0, 1, 1, 0, 0, 0, 1, operation));
-    }
-
-    private static int operandBytes(int operation) {
-        int[] one = {5, 11, 12, 13, 14, 15, 21, 22, 23, 47, 48, 49, 50, 51, 53, 54, 55, 56, 57, 58};
-        for (int other : one) {
-            if (operation == other) {
-                return 1;
+            for (int value : new int[] {0, mark[i] - 1, mark[i] + 1, mark[i] + 128, 255}) {
+                byte[] row = Bytes.with(Sample.bytes(), i, value);
+                Reading.fault("byte " + i + " is " + value, 1, i, row);
+                Reading.fault("byte " + i + " is " + value + " and the last", 1, i, Bytes.cut(row, i + 1));
+                Reading.fault("byte " + i + " is " + value + ", and all behind it", 1, i,
+                    Bytes.join(Bytes.cut(row, i + 1), Bytes.repeated(20, 255)));
             }
         }
-        switch (operation) {
-            case 2: case 3: case 4: case 16: case 17: case 52:
-                return 2;
-            case 6: case 10:
-                return 8;
-            case 7:
-                return 16;
-            default:
-                return 0;
+        Reading.fault("two bytes are others", 1, 1, Bytes.of(82, 0, 77, 0));
+        Reading.fine("the fifth and sixth byte are free", Bytes.of(82, 76, 77, 49, 82, 76, 0, 0, 0, 0, 0));
+    }
+
+    private static void placesFromZero() {
+        Check.sentence("Terms", "PLACES in it are numbered from 0.");
+        Reading.fault("the first byte", 1, 0, Bytes.of(0));
+        Reading.fault("the second byte", 1, 1, Bytes.of(82, 0));
+        Reading.fault("the last byte of the sample", 5, 132, Bytes.with(Sample.bytes(), 132, 60));
+    }
+
+    private static void endsEarly() {
+        Check.sentence("Terms", "2 the tape ends before the module does, at its length.");
+        byte[] row = Sample.bytes();
+        for (int length = 0; length < row.length; length++) {
+            Reading.fault("the sample cut to " + length, 2, length, Bytes.cut(row, length));
         }
+        byte[] empty = new Parts().bytes();
+        for (int length = 0; length < empty.length; length++) {
+            Reading.fault("the empty module cut to " + length, 2, length, Bytes.cut(empty, length));
+        }
+        Reading.fine("the empty module", empty);
+        byte[] many = new Parts().functions(1, Parts.function(0x1000)).bytes();
+        Reading.fault("half a count of instructions, too many by that half", 2, 16, Bytes.cut(many, 16));
+    }
+
+    private static void outOfBounds() {
+        Check.sentence("Terms", "3 a number that is not in its bounds (how many, abilities, flags, how many instructions in all), at its first byte.");
+        Reading.fault("how many structures", 3, 6, Bytes.with(Sample.bytes(), 6, 33));
+        Reading.fault("abilities", 3, 7, Bytes.with(Sample.bytes(), 7, 16));
+        Reading.fault("no fields", 3, 8, Bytes.with(Sample.bytes(), 8, 0));
+        Reading.fault("how many fields", 3, 19, Bytes.with(Sample.bytes(), 19, 17));
+        Reading.fault("how many foreign structures", 3, 22, Bytes.with(Sample.bytes(), 22, 33));
+        Reading.fault("a foreign structure's abilities", 3, 30, Bytes.with(Sample.bytes(), 30, 16));
+        Reading.fault("how many foreign functions", 3, 31, Bytes.with(Sample.bytes(), 31, 33));
+        Reading.fault("a foreign function's flags", 3, 35, Bytes.with(Sample.bytes(), 35, 8));
+        Reading.fault("how many a foreign function takes", 3, 36, Bytes.with(Sample.bytes(), 36, 9));
+        Reading.fault("how many a foreign function gives", 3, 41, Bytes.with(Sample.bytes(), 41, 9));
+        Reading.fault("how many element types", 3, 55, Bytes.with(Sample.bytes(), 55, 33));
+        Reading.fault("how many functions", 3, 62, Bytes.with(Sample.bytes(), 62, 65));
+        Reading.fault("flags", 3, 63, Bytes.with(Sample.bytes(), 63, 8));
+        Reading.fault("how many it takes", 3, 64, Bytes.with(Sample.bytes(), 64, 9));
+        Reading.fault("how many it gives", 3, 66, Bytes.with(Sample.bytes(), 66, 9));
+        Reading.fault("how many further locals", 3, 71, Bytes.with(Sample.bytes(), 71, 33));
+        Reading.fault("no instructions, at the SHORT", 3, 76, Bytes.with(Sample.bytes(), 77, 0));
+        Reading.fault("1025 instructions, at the SHORT", 3, 76, Bytes.with(Bytes.with(Sample.bytes(), 76, 4), 77, 1));
+        Reading.fault("how many a new vector has", 3, 93, Bytes.with(Sample.bytes(), 93, 65));
+        Reading.fault("the second function's flags", 3, 126, Bytes.with(Sample.bytes(), 126, 8));
+    }
+
+    private static void noType() {
+        Check.sentence("Terms", "4 a byte that is no TYPE there (also a fifth 7), at it.");
+        int[] places = {9, 10, 11, 17, 20, 37, 40, 42, 43, 47, 56, 57, 58, 60, 65, 67, 68, 69, 70, 72, 73, 74};
+        for (int place : places) {
+            Reading.fault("no type at " + place, 4, place, Bytes.with(Sample.bytes(), place, 0));
+            Reading.fault("no type at " + place, 4, place, Bytes.with(Sample.bytes(), place, 10));
+        }
+        Reading.fault("a fifth 7 in a field", 4, 17, Bytes.with(Sample.bytes(), 17, 7));
+        Reading.fault("a fifth 7 behind a reference", 4, 47, Bytes.with(Sample.bytes(), 47, 7));
+    }
+
+    private static void noOperation() {
+        Check.sentence("Terms", "5 a byte that is no operation, at it.");
+        for (int place : new int[] {78, 80, 82, 84, 87, 89, 91, 94, 96, 99, 108, 125, 132}) {
+            Reading.fault("60 at " + place, 5, place, Bytes.with(Sample.bytes(), place, 60));
+            Reading.fault("128 at " + place, 5, place, Bytes.with(Sample.bytes(), place, 128));
+            Reading.fault("255 at " + place, 5, place, Bytes.with(Sample.bytes(), place, 255));
+        }
+        Reading.fine("59 as the last one", Bytes.with(Sample.bytes(), 132, 59));
     }
 
     private static void bytesBehind() {
-        fault("a byte behind", 6, Sample.LENGTH, Bytes.join(Sample.bytes(), Bytes.of(0)));
-        fault("a module behind", 6, Sample.LENGTH, Bytes.join(Sample.bytes(), Sample.bytes()));
-        fault("a byte behind the empty module", 6, 11, Bytes.module(Bytes.of(0, 0, 0, 0, 0, 82)));
-    }
-
-    /** A module with two own structures and two foreign ones, and one function; its only instruction begins at place 32. */
-    private static byte[] withStructures(int... instruction) {
-        return Bytes.module(Bytes.of(2, 0, 2, 1, 2, 0, 1, 3, 2, 0, 1, 0, 0, 0, 1, 1, 0, 0, 0, 1, 0, 0, 0, 0),
-            Bytes.of(0, 1), Bytes.of(instruction));
-    }
-
-    private static void structureNumbers() {
-        fine("a field of the last foreign structure", Bytes.module(Bytes.of(1, 0, 1, 6, 1, 1, 0, 0, 0, 0, 0, 0, 0)));
-        fault("a field of no structure", 7, 10, Bytes.module(Bytes.of(1, 0, 1, 6, 2, 1, 0, 0, 0, 0, 0, 0, 0)));
-        fault("a vector of no structure", 7, 11, Bytes.module(Bytes.of(1, 0, 1, 7, 6, 255, 0, 0, 0, 0)));
-        fault("an element type of no structure", 7, 11, Bytes.module(Bytes.of(0, 0, 0, 1, 6, 0, 0)));
-        fault("a taken type of no structure", 7, 15, taking(8, 6, 0));
-        fault("a given type of no structure", 7, 15, Bytes.module(Bytes.of(0, 0, 0, 0, 1, 0, 0, 1, 6, 0, 0, 0, 1, 1)));
-        fault("a local of no structure", 7, 16, Bytes.module(Bytes.of(0, 0, 0, 0, 1, 0, 0, 0, 1, 6, 0, 0, 1, 1)));
-        fault("a foreign function's type", 7, 15, Bytes.module(Bytes.of(0, 0, 1, 0, 0, 0, 0, 1, 6, 0, 0, 0, 0)));
-        fault("a foreign function's given type", 7, 16, Bytes.module(Bytes.of(0, 0, 1, 0, 0, 0, 0, 0, 1, 6, 0, 0, 0)));
-    }
-
-    private static void ownStructures() {
-        for (int operation : new int[] {16, 17, 21, 22, 47, 48, 49, 50, 51}) {
-            boolean field = operation == 16 || operation == 17;
-            fine("own structure, " + operation, withStructures(named(operation, 1, field)));
-            fault("foreign structure, " + operation, 8, 33, withStructures(named(operation, 2, field)));
-            fault("last foreign structure, " + operation, 8, 33, withStructures(named(operation, 3, field)));
-            fault("no structure, " + operation, 7, 33, withStructures(named(operation, 4, field)));
-            fault("no structure 255, " + operation, 7, 33, withStructures(named(operation, 255, field)));
+        Check.sentence("Terms", "6 bytes behind the module, at the first one.");
+        for (int value : new int[] {0, 1, 82, 255}) {
+            Reading.fault("a byte behind, " + value, 6, Sample.LENGTH, Bytes.join(Sample.bytes(), Bytes.of(value)));
+            Reading.fault("a byte behind the empty module, " + value, 6, 11, Bytes.join(new Parts().bytes(), Bytes.of(value)));
         }
+        Reading.fault("two bytes behind", 6, Sample.LENGTH, Bytes.join(Sample.bytes(), Bytes.of(0, 0)));
+        Reading.fault("a module behind", 6, Sample.LENGTH, Bytes.join(Sample.bytes(), Sample.bytes()));
+        Reading.fine("none behind", Sample.bytes());
     }
 
-    private static int[] named(int operation, int structure, boolean field) {
-        return field ? new int[] {operation, structure, 0} : new int[] {operation, structure};
+    /** Two own structures, of two fields and of one, and two foreign ones. */
+    private static Parts withStructures(int... instruction) {
+        return new Parts().structures(2, Bytes.of(0, 2, 1, 2), Bytes.of(0, 1, 3))
+            .foreignStructures(2, Bytes.of(0, 1, 0, 0), Bytes.of(0, 1, 1, 0)).functions(1, Parts.function(1, Bytes.of(instruction)));
     }
 
-    private static void fieldNumbers() {
+    /** Where the only instruction of the only function begins. */
+    private static int codeAt(Parts parts) {
+        return parts.functionsAt() + 7;
+    }
+
+    private static int[] naming(int operation, int structure) {
+        return operation <= 17 ? new int[] {operation, structure, 0} : new int[] {operation, structure};
+    }
+
+    private static void noStructure() {
+        Check.sentence("Terms", "7 a structure's number that is none, at it.");
+        for (int place : new int[] {12, 21, 39, 48, 59, 61, 75}) {
+            Reading.fault("4 at " + place, 7, place, Bytes.with(Sample.bytes(), place, 4));
+            Reading.fault("255 at " + place, 7, place, Bytes.with(Sample.bytes(), place, 255));
+            Reading.fine("3 at " + place, Bytes.with(Sample.bytes(), place, 3));
+        }
+        for (int operation : OF_STRUCTURES) {
+            for (int number : new int[] {4, 5, 128, 255}) {
+                Parts parts = withStructures(naming(operation, number));
+                Reading.fault(operation + " with " + number, 7, codeAt(parts) + 1, parts.bytes());
+            }
+            Parts parts = new Parts().functions(1, Parts.function(1, Bytes.of(naming(operation, 0))));
+            Reading.fault(operation + " without structures", 7, codeAt(parts) + 1, parts.bytes());
+        }
+        Parts most = new Parts().structures(32, Bytes.repeated(32, 0, 1, 1)).foreignStructures(32, Bytes.repeated(32, 0, 0, 0, 0));
+        Reading.fine("63 of 64", most.elements(1, Bytes.of(6, 63)).bytes());
+        Reading.fault("64 of 64", 7, most.elementsAt() + 2, most.elements(1, Bytes.of(6, 64)).bytes());
+    }
+
+    private static void foreignStructure() {
+        Check.sentence("Terms", "8 a structure that has to be the module's own (16, 17, 21, 22, 47 .. 51), and is a foreign one, at its number.");
+        for (int operation : OF_STRUCTURES) {
+            for (int number = 0; number <= 3; number++) {
+                Parts parts = withStructures(naming(operation, number));
+                if (number < 2) {
+                    Reading.fine(operation + " with " + number, parts.bytes());
+                } else {
+                    Reading.fault(operation + " with " + number, 8, codeAt(parts) + 1, parts.bytes());
+                }
+            }
+            Parts none = new Parts().foreignStructures(1, Bytes.of(0, 0, 0, 0)).functions(1, Parts.function(1, Bytes.of(naming(operation, 0))));
+            Reading.fault(operation + " without own ones", 8, codeAt(none) + 1, none.bytes());
+        }
+        Parts most = new Parts().structures(32, Bytes.repeated(32, 0, 1, 1)).foreignStructures(32, Bytes.repeated(32, 0, 0, 0, 0));
+        Reading.fine("31 of 32", most.functions(1, Parts.function(1, Bytes.of(21, 31))).bytes());
+        Reading.fault("32 of 32", 8, codeAt(most) + 1, most.functions(1, Parts.function(1, Bytes.of(21, 32))).bytes());
+        Reading.fault("63 of 32 and 32", 8, codeAt(most) + 1, most.functions(1, Parts.function(1, Bytes.of(21, 63))).bytes());
+        Reading.fault("64 of 32 and 32", 7, codeAt(most) + 1, most.functions(1, Parts.function(1, Bytes.of(21, 64))).bytes());
+    }
+
+    private static void noField() {
+        Check.sentence("Terms", "9 a field's number that is none.");
         for (int operation : new int[] {16, 17}) {
-            fine("the last field, " + operation, withStructures(operation, 0, 1));
-            fault("no field, " + operation, 9, 34, withStructures(operation, 0, 2));
-            fault("no field of the second, " + operation, 9, 34, withStructures(operation, 1, 1));
-            fault("no field 255, " + operation, 9, 34, withStructures(operation, 1, 255));
-            fault("a foreign structure before its field, " + operation, 8, 33, withStructures(operation, 2, 255));
+            int at = codeAt(withStructures(operation, 0, 0)) + 2;
+            Reading.fine(operation + ": the last field of 0", withStructures(operation, 0, 1).bytes());
+            Reading.fine(operation + ": the only field of 1", withStructures(operation, 1, 0).bytes());
+            Reading.fault(operation + ": behind the last of 0", 9, at, withStructures(operation, 0, 2).bytes());
+            Reading.fault(operation + ": behind the only one of 1", 9, at, withStructures(operation, 1, 1).bytes());
+            Reading.fault(operation + ": 255", 9, at, withStructures(operation, 0, 255).bytes());
+            Parts full = new Parts().structures(1, Bytes.of(0, 16), Bytes.repeated(16, 1));
+            Reading.fine(operation + ": 15 of 16", full.functions(1, Parts.function(1, Bytes.of(operation, 0, 15))).bytes());
+            Reading.fault(operation + ": 16 of 16", 9, codeAt(full) + 2, full.functions(1, Parts.function(1, Bytes.of(operation, 0, 16))).bytes());
         }
     }
 
-    private static void localNumbers() {
+    private static byte[] withLocals(int taken, int given, int further, int operation, int local) {
+        return new Parts().functions(1, Bytes.of(0, taken), Bytes.repeated(taken, 1), Bytes.of(given), Bytes.repeated(given, 1),
+            Bytes.of(further), Bytes.repeated(further, 1), Bytes.of(0, 1, operation, local)).bytes();
+    }
+
+    private static void noLocal() {
+        Check.sentence("Terms", "10 a local's number that is none.");
         for (int operation = 11; operation <= 15; operation++) {
-            byte[] row = Bytes.module(Bytes.of(0, 0, 0, 0, 1, 0, 2, 1, 1, 1, 1, 1, 1, 0, 1, operation, 0));
-            fine("a taken local, " + operation, Bytes.with(row, 22, 1));
-            fine("the last local, " + operation, Bytes.with(row, 22, 2));
-            fault("no local, " + operation, 10, 22, Bytes.with(row, 22, 3));
-            fault("no local 255, " + operation, 10, 22, Bytes.with(row, 22, 255));
-            fault("no locals at all, " + operation, 10, 18, Bytes.code(1, operation, 0));
+            Reading.fault(operation + ": 0 of none", 10, 18, withLocals(0, 0, 0, operation, 0));
+            Reading.fine(operation + ": 0 of one", withLocals(1, 0, 0, operation, 0));
+            Reading.fault(operation + ": 1 of one", 10, 19, withLocals(1, 0, 0, operation, 1));
+            Reading.fine(operation + ": 39 of 40", withLocals(8, 0, 32, operation, 39));
+            Reading.fault(operation + ": 40 of 40", 10, 58, withLocals(8, 0, 32, operation, 40));
+            Reading.fault(operation + ": 255 of 40", 10, 58, withLocals(8, 0, 32, operation, 255));
         }
     }
 
-    private static void functionNumbers() {
-        fine("a call of itself", Bytes.code(1, 23, 0));
-        fault("a call of none", 11, 18, Bytes.code(1, 23, 1));
-        byte[] row = Bytes.module(Bytes.of(0, 0, 1, 0, 0, 0, 0, 0, 0, 0, 2, 0, 0, 0, 0, 0, 1, 23, 0, 0, 0, 0, 0, 0, 1, 1));
-        fine("a call of a later one", Bytes.with(row, 24, 1));
-        fine("a call of a foreign one", Bytes.with(row, 24, 2));
-        fault("a call of one behind", 11, 24, Bytes.with(row, 24, 3));
-    }
-
-    /** A module of one element type and one function; its only instruction begins at place 18. */
-    private static byte[] withElements(int... instruction) {
-        return Bytes.module(Bytes.of(0, 0, 0, 1, 3, 1, 0, 0, 0, 0, 0, 1), Bytes.of(instruction));
-    }
-
-    private static void elementNumbers() {
-        for (int operation = 53; operation <= 58; operation++) {
-            fine("an element type, " + operation, withElements(operation, 0));
-            fault("no element type, " + operation, 12, 19, withElements(operation, 1));
-            fault("no element types at all, " + operation, 12, 18, Bytes.code(1, operation, 0));
+    private static void localsAreTakenAndFurther() {
+        Check.sentence("Terms", "LOCALS are what a function takes and its further locals, numbered from 0.");
+        for (int operation = 11; operation <= 15; operation++) {
+            Reading.fine(operation + ": the last taken one", withLocals(2, 0, 0, operation, 1));
+            Reading.fine(operation + ": the last further one", withLocals(0, 0, 2, operation, 1));
+            Reading.fine(operation + ": the last of both", withLocals(2, 0, 2, operation, 3));
+            Reading.fault(operation + ": what is given is none", 10, 26, withLocals(0, 8, 0, operation, 0));
+            Reading.fault(operation + ": what is given is none either", 10, 30, withLocals(2, 8, 2, operation, 4));
         }
-        fault("no element type, 52", 12, 19, withElements(52, 1, 0));
-        fault("no element type 255, 52", 12, 19, withElements(52, 255, 64));
+        byte[] two = new Parts().functions(2, Bytes.of(0, 1, 1, 0, 0, 0, 1, 0), Parts.function(1, Bytes.of(11, 0))).bytes();
+        Reading.fault("another function's local", 10, 26, two);
     }
 
-    private static void branches() {
+    private static void noFunction() {
+        Check.sentence("Terms", "11 a function's number that is none.");
+        Reading.fine("itself", new Parts().functions(1, Parts.function(1, Bytes.of(23, 0))).bytes());
+        Reading.fault("behind itself", 11, 18, new Parts().functions(1, Parts.function(1, Bytes.of(23, 1))).bytes());
+        Reading.fault("255", 11, 18, new Parts().functions(1, Parts.function(1, Bytes.of(23, 255))).bytes());
+        for (int called = 0; called <= 4; called++) {
+            Parts parts = new Parts().foreignFunctions(2, Bytes.repeated(2, 0, 0, 0, 0, 0, 0))
+                .functions(2, Parts.function(1, Bytes.of(23, called)), Parts.shortest());
+            if (called < 4) {
+                Reading.fine("a call of " + called, parts.bytes());
+            } else {
+                Reading.fault("a call of " + called, 11, codeAt(parts) + 1, parts.bytes());
+            }
+        }
+        for (int called = 95; called <= 96; called++) {
+            Parts most = new Parts().foreignFunctions(32, Bytes.repeated(32, 0, 0, 0, 0, 0, 0))
+                .functions(64, Parts.function(1, Bytes.of(23, called)), Parts.times(63, Parts.shortest()));
+            if (called == 95) {
+                Reading.fine("95 of 96", most.bytes());
+            } else {
+                Reading.fault("96 of 96", 11, codeAt(most) + 1, most.bytes());
+            }
+        }
+    }
+
+    private static void noElement() {
+        Check.sentence("Terms", "12 an element type's number that is none.");
+        for (int operation = 52; operation <= 58; operation++) {
+            for (int elements : new int[] {0, 1, 2, 32}) {
+                Parts parts = new Parts().elements(elements, Bytes.repeated(elements, 1));
+                int place = codeAt(parts) + 1;
+                if (elements > 0) {
+                    Reading.fine(operation + ": the last of " + elements, parts.functions(1, element(operation, elements - 1)).bytes());
+                }
+                Reading.fault(operation + ": behind the last of " + elements, 12, place, parts.functions(1, element(operation, elements)).bytes());
+                Reading.fault(operation + ": 255 of " + elements, 12, place, parts.functions(1, element(operation, 255)).bytes());
+            }
+        }
+    }
+
+    private static byte[] element(int operation, int number) {
+        return Parts.function(1, operation == 52 ? Bytes.of(52, number, 64) : Bytes.of(operation, number));
+    }
+
+    private static void noInstruction() {
+        Check.sentence("Terms", "13 a branch to where no instruction is, at the SHORT. Each at its first byte.");
         for (int operation = 2; operation <= 4; operation++) {
-            fine("a branch to the last, " + operation, Bytes.code(2, operation, 0, 1, 1));
-            fault("a branch behind the last, " + operation, 13, 18, Bytes.code(2, operation, 0, 2, 1));
-            fault("a branch far behind, " + operation, 13, 18, Bytes.code(2, operation, 1, 0, 1));
-            fault("a later branch, " + operation, 13, 19, Bytes.code(2, 1, operation, 255, 255));
+            for (int count : new int[] {1, 2, 255, 256, 257, 1024}) {
+                int last = count - 1;
+                Reading.fine(operation + ": to the first of " + count, branch(operation, 0, count));
+                Reading.fine(operation + ": to the last of " + count, branch(operation, last, count));
+                Reading.fault(operation + ": behind the last of " + count, 13, 18, branch(operation, count, count));
+                Reading.fault(operation + ": to 65535 of " + count, 13, 18, branch(operation, 65535, count));
+                Reading.fault(operation + ": by its higher byte, of " + count, 13, 18, branch(operation, 0x8000 + last, count));
+            }
+            byte[] two = new Parts().functions(2, branchOf(operation, 1, 1), Parts.function(2, new byte[2])).bytes();
+            Reading.fault(operation + ": into the next function", 13, 18, two);
+            byte[] later = new Parts().functions(1, Parts.function(2, Bytes.of(1, operation, 0, 2))).bytes();
+            Reading.fault(operation + ": of the second instruction", 13, 19, later);
         }
     }
 
-    private static void circles() {
-        fault("a field of itself", 14, 7, structures(2, Bytes.of(0, 1, 6, 0), Bytes.of(0, 1, 1)));
-        fault("vectors of itself", 14, 7, structures(1, Bytes.of(0, 1, 7, 7, 7, 7, 6, 0)));
-        fault("two of each other", 14, 7, structures(2, Bytes.of(0, 1, 6, 1), Bytes.of(0, 1, 6, 0)));
-        fault("the second of itself", 14, 11, structures(2, Bytes.of(0, 1, 6, 1), Bytes.of(0, 2, 1, 6, 1)));
-        fault("a circle that leaves out the first", 14, 14,
-            structures(3, Bytes.of(0, 3, 6, 1, 6, 2, 5), Bytes.of(0, 1, 7, 6, 2), Bytes.of(0, 1, 6, 1)));
-        fault("a circle of the last", 14, 15,
-            structures(3, Bytes.of(0, 1, 6, 1), Bytes.of(0, 1, 6, 2), Bytes.of(0, 1, 6, 2)));
-        fine("a chain", structures(3, Bytes.of(0, 1, 6, 1), Bytes.of(0, 1, 6, 2), Bytes.of(0, 1, 3)));
-        fine("a chain backwards", structures(3, Bytes.of(0, 1, 3), Bytes.of(0, 1, 6, 0), Bytes.of(0, 2, 6, 0, 6, 1)));
-        fine("a foreign one in the first", structures(1, Bytes.of(0, 2, 6, 1, 7, 6, 1)));
-        longCircles();
+    private static byte[] branchOf(int operation, int target, int count) {
+        return Parts.function(count, Bytes.of(operation, target >> 8, target), new byte[count - 1]);
     }
 
-    private static void longCircles() {
-        byte[][] chain = new byte[32][];
-        for (int k = 0; k < 32; k++) {
-            chain[k] = Bytes.of(0, 1, 6, k < 31 ? k + 1 : 32);
-        }
-        fine("a chain of 32", structures(32, chain));
-        chain[31] = Bytes.of(0, 1, 6, 0);
-        fault("a circle of 32", 14, 7, structures(32, chain));
-        chain[31] = Bytes.of(0, 1, 6, 31);
-        fault("the last one of itself", 14, 7 + 31 * 4, structures(32, chain));
-        chain[31] = Bytes.of(0, 1, 6, 17);
-        fault("a circle from 17 on", 14, 7 + 17 * 4, structures(32, chain));
+    private static byte[] branch(int operation, int target, int count) {
+        return new Parts().functions(1, branchOf(operation, target, count)).bytes();
     }
 
     /** A module of these structures and one foreign structure. */
-    private static byte[] structures(int count, byte[]... rows) {
-        return Bytes.module(Bytes.of(count), Bytes.join(rows), Bytes.of(1, 0, 0, 0, 0, 0, 0, 0));
+    private static byte[] structures(byte[]... rows) {
+        return new Parts().structures(rows.length, rows).foreignStructures(1, Bytes.of(0, 0, 0, 0)).bytes();
     }
 
-    private static void order() {
-        fault("a wrong mark before the end", 1, 1, Bytes.of(82, 0));
-        fault("bounds before the end", 3, 6, Bytes.module(Bytes.of(33)));
-        fault("no type before the end", 4, 9, Bytes.module(Bytes.of(1, 0, 1, 0)));
-        fault("no operation before the end", 5, 17, Bytes.code(2, 60));
-        fault("bounds before a later type", 3, 7, Bytes.module(Bytes.of(1, 16, 1, 0, 0, 0, 0, 0)));
-        fault("a type before later bounds", 4, 9, Bytes.module(Bytes.of(1, 0, 1, 0, 33)));
-        fault("the end before an earlier name", 2, 14, Bytes.module(Bytes.of(1, 0, 1, 6, 9, 0, 0, 0)));
-        fault("bytes behind before an earlier name", 6, 15, Bytes.module(Bytes.of(1, 0, 1, 6, 9, 0, 0, 0, 0, 1)));
-        fault("an operation before an earlier name", 5, 19, Bytes.code(2, 23, 9, 60));
-        fault("a vector's bounds before its name", 3, 20, withElements(52, 9, 65));
-        fault("a name before an earlier circle", 12, 22,
-            Bytes.module(Bytes.of(1, 0, 1, 6, 0, 0, 0, 0, 1, 0, 0, 0, 0, 0, 1, 53, 0)));
-        fault("the circle behind it", 14, 7, Bytes.module(Bytes.of(1, 0, 1, 6, 0, 0, 0, 0, 1, 0, 0, 0, 0, 0, 1, 59)));
-        fault("the earlier of two names", 13, 18, Bytes.code(2, 2, 0, 9, 23, 9));
-        fault("the earlier of two names, turned", 11, 18, Bytes.code(2, 23, 9, 2, 0, 9));
-        fault("a type's name before a code's", 7, 11, Bytes.module(Bytes.of(0, 0, 0, 1, 6, 0, 1, 0, 0, 0, 0, 0, 1, 11, 9)));
-        fault("a structure before its field", 7, 18, Bytes.code(1, 16, 0, 9));
+    /** Structures of one field each, which is the next structure; the last one's field is this one. */
+    private static byte[] chain(int count, int last) {
+        byte[][] rows = new byte[count][];
+        for (int k = 0; k < count; k++) {
+            rows[k] = Bytes.of(0, 1, 6, k < count - 1 ? k + 1 : last);
+        }
+        return structures(rows);
+    }
+
+    private static void circles() {
+        Check.sentence("Terms", "14 a structure that contains itself, by its fields' types, and theirs");
+        Reading.fault("a field of itself", 14, 7, structures(Bytes.of(0, 1, 6, 0)));
+        Reading.fault("the last of 16 fields", 14, 7, structures(Bytes.join(Bytes.of(0, 16), Bytes.repeated(15, 1), Bytes.of(6, 0))));
+        Reading.fault("two of each other", 14, 7, structures(Bytes.of(0, 1, 6, 1), Bytes.of(0, 1, 6, 0)));
+        Reading.fault("three in a round", 14, 7, structures(Bytes.of(0, 1, 6, 2), Bytes.of(0, 1, 6, 0), Bytes.of(0, 1, 6, 1)));
+        Reading.fine("a chain", structures(Bytes.of(0, 1, 6, 1), Bytes.of(0, 1, 6, 2), Bytes.of(0, 1, 3)));
+        Reading.fine("a chain backwards", structures(Bytes.of(0, 1, 3), Bytes.of(0, 1, 6, 0), Bytes.of(0, 2, 6, 0, 6, 1)));
+        Reading.fine("one twice", structures(Bytes.of(0, 2, 6, 1, 6, 1), Bytes.of(0, 1, 3)));
+        Reading.fine("one by two ways", structures(Bytes.of(0, 2, 6, 1, 6, 2), Bytes.of(0, 1, 6, 3), Bytes.of(0, 1, 6, 3), Bytes.of(0, 1, 1)));
+        Reading.fine("a chain of 32", chain(32, 32));
+        Reading.fault("a circle of 32", 14, 7, chain(32, 0));
+    }
+
+    private static void circlesInVectors() {
+        Check.sentence("Terms", "also in vectors");
+        for (int sevens = 1; sevens <= 4; sevens++) {
+            byte[] vector = Bytes.join(Bytes.of(0, 1), Bytes.repeated(sevens, 7), Bytes.of(6));
+            Reading.fault(sevens + " vectors of itself", 14, 7, structures(Bytes.join(vector, Bytes.of(0))));
+            Reading.fault(sevens + " vectors of each other", 14, 7,
+                structures(Bytes.join(vector, Bytes.of(1)), Bytes.join(vector, Bytes.of(0))));
+            Reading.fine(sevens + " vectors of a foreign one", structures(Bytes.join(vector, Bytes.of(1))));
+        }
+    }
+
+    private static void firstCircle() {
+        Check.sentence("Terms", "at its ABILITIES, the first such one.");
+        Reading.fault("the second of itself", 14, 10, structures(Bytes.of(0, 1, 1), Bytes.of(0, 1, 6, 1)));
+        Reading.fault("the second of itself, and in the first", 14, 11, structures(Bytes.of(0, 1, 6, 1), Bytes.of(0, 2, 1, 6, 1)));
+        Reading.fault("the first and the second", 14, 7, structures(Bytes.of(0, 1, 6, 0), Bytes.of(0, 1, 6, 1)));
+        Reading.fault("a circle that leaves out the first", 14, 14,
+            structures(Bytes.of(0, 3, 6, 1, 6, 2, 5), Bytes.of(0, 1, 7, 6, 2), Bytes.of(0, 1, 6, 1)));
+        Reading.fault("the third alone", 14, 15, structures(Bytes.of(0, 1, 6, 1), Bytes.of(0, 1, 6, 2), Bytes.of(0, 1, 6, 2)));
+        for (int from = 0; from < 32; from++) {
+            Reading.fault("a circle from " + from + " on", 14, 7 + 4 * from, chain(32, from));
+        }
+    }
+
+    private static void ownCircles() {
+        Check.sentence("Terms", "of the module's own structures");
+        Reading.fine("a foreign one", structures(Bytes.of(0, 2, 6, 1, 7, 6, 1)));
+        Reading.fine("a foreign one behind 32", chain(32, 32));
+        Reading.fine("the foreign one whose number is 32, in 0", thirtyTwo(0, 32));
+        Reading.fine("the own one whose number is 30, in 31", thirtyTwo(31, 30));
+        Reading.fault("the own one whose number is 31, in 31", 14, 7 + 31 * 4, thirtyTwo(31, 31));
+        Reading.fine("in an element type and in lists", new Parts().structures(1, Bytes.of(0, 1, 1)).elements(1, Bytes.of(6, 0))
+            .functions(1, Bytes.of(0, 1, 6, 0, 1, 6, 0, 1, 6, 0, 0, 1, 0)).bytes());
+    }
+
+    /** 32 structures of one field each, a foreign structure; but the field of structure k is this structure. */
+    private static byte[] thirtyTwo(int k, int structure) {
+        byte[][] rows = new byte[32][];
+        for (int i = 0; i < 32; i++) {
+            rows[i] = Bytes.of(0, 1, 6, i == k ? structure : 32);
+        }
+        return structures(rows);
     }
 }

@@ -15,6 +15,7 @@ public final class GeneratedTest {
     }
 
     public static void main(String[] args) {
+        Check.sentence("What it is", "each row of bytes is taken apart into tables");
         for (int seed = 0; seed < WHOLE; seed++) {
             byte[] module = new GeneratedTest(seed).module();
             Reference reference = new Reference(module);
@@ -27,6 +28,7 @@ public final class GeneratedTest {
 
     /** One object reads many of them, good ones and faulty ones, as far as its calls go. */
     private static void changedOnes() {
+        Check.sentence("What it is", "or refused at its first fault");
         int[] seen = new int[15];
         CodeTables x = new CodeTables();
         int calls = 0;
@@ -34,7 +36,7 @@ public final class GeneratedTest {
             GeneratedTest generated = new GeneratedTest(seed);
             byte[] module = generated.changed(generated.module());
             int needed = (module.length + 7) / 8 + 4;
-            if (calls + needed > Comparison.CALLS) {
+            if (calls + needed > Reading.CALLS) {
                 x = new CodeTables();
                 calls = 0;
             }

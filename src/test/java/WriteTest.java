@@ -1,70 +1,125 @@
-import java.util.Arrays;
-
-/** Promises 13 and 14: write, written. */
+/** Promises 13 and 14, sentence by sentence: write, written. */
 public final class WriteTest {
     private static final int BAD = CodeTables.BAD;
+    private static final byte[] EMPTY = new Parts().bytes();
 
     public static void main(String[] args) {
-        theVerySameBytes("the sample", Sample.bytes());
-        theVerySameBytes("the empty module", Bytes.module(Bytes.of(0, 0, 0, 0, 0)));
-        theVerySameBytes("65535 as its number", Bytes.of(82, 76, 77, 49, 255, 255, 0, 0, 0, 0, 0));
-        theVerySameBytes("a long code", Bytes.join(Bytes.code(1000), Bytes.repeated(500, 5, 255, 0)));
-        theLatest();
-        beyondTheCalls();
+        verySame();
+        howMany();
+        badWithoutModule();
+        byteOfTheLatest();
+        writtenLatest();
+        badWithoutByte();
         Check.end();
     }
 
-    /** As many objects as it takes to ask for every byte within 512 calls each. */
-    private static void theVerySameBytes(String name, byte[] row) {
-        for (int from = 0; from < row.length; from += 200) {
-            CodeTables x = Bytes.typed(row);
-            Check.due(name + ": written(0) before a write", x.written(0), BAD);
-            Check.due(name + ": read()", x.read(), 0);
-            Check.due(name + ": written(0) behind a read", x.written(0), BAD);
-            Check.due(name + ": write()", x.write(), row.length);
-            for (int i = from; i < Math.min(from + 200, row.length); i++) {
-                Check.due(name + ": written(" + i + ")", x.written(i), row[i] & 255);
-            }
-            for (int i : new int[] {-1, row.length, 65536, Integer.MIN_VALUE, Integer.MAX_VALUE}) {
-                Check.due(name + ": written(" + i + ")", x.written(i), BAD);
-            }
-        }
+    private static void verySame() {
+        Check.sentence("What it is", "tables are written as bytes again, the very same ones.");
+        Reading.fine("the sample", Sample.bytes());
+        Reading.fine("the empty module", EMPTY);
+        Reading.fine("the lowest number", Bytes.of(82, 76, 77, 49, 0, 0, 0, 0, 0, 0, 0));
+        Reading.fine("the highest number", Bytes.of(82, 76, 77, 49, 255, 255, 0, 0, 0, 0, 0));
+        Reading.fine("a long code", new Parts().functions(1, Parts.function(1000, Bytes.repeated(500, 5, 255, 0))).bytes());
+        Reading.fineBeyond("seven long codes", new Parts().functions(7, Parts.times(7,
+            Parts.function(1024, Bytes.repeated(1024, 6, 1, 2, 3, 4, 5, 6, 7, 128)))).bytes());
     }
 
-    private static void theLatest() {
-        CodeTables x = Bytes.typed(Sample.bytes());
+    private static void howMany() {
+        Check.sentence("Promise 13", "THE MODULE is written: how many bytes.");
+        CodeTables x = Reading.read("the sample", Sample.bytes());
+        Check.due("write()", x.write(), Sample.LENGTH);
+        Check.due("write() again", x.write(), Sample.LENGTH);
+        Bytes.type(x, EMPTY);
+        Check.due("write() while another one is typed", x.write(), Sample.LENGTH);
         x.read();
-        x.write();
-        Check.due("write() does it again", x.write(), Sample.LENGTH);
-        Bytes.type(x, Bytes.of(82, 76, 77, 49, 0, 9, 0, 0, 0, 0, 0));
-        Check.due("written stays while typing", x.written(4), 0x12);
-        Check.due("read() of another module", x.read(), 0);
-        Check.due("written stays behind a read", x.written(4), 0x12);
-        Check.due("write() of the other", x.write(), 11);
-        Check.due("its number", x.written(5), 9);
-        Check.due("its end", x.written(10), 0);
-        Check.due("nothing behind it", x.written(11), BAD);
-        Check.due("read() with a fault", x.read(), -2);
-        Check.due("written stays behind a fault", x.written(5), 9);
-        Check.due("write() without a module", x.write(), BAD);
-        Check.due("written stays behind it", x.written(5), 9);
+        Check.due("write() of the smallest one", x.write(), 11);
+        Check.due("the module stays behind a write", x.told(0), 7);
+        Check.due("place() stays behind a write", x.place(), 11);
+        Check.due("the tape stays empty behind a write", x.type(82, 1), 1);
     }
 
-    /** The largest row of bytes comes back too, though the document speaks of 512 calls alone. */
-    private static void beyondTheCalls() {
-        byte[] code = Bytes.join(Bytes.of(0, 0, 0, 0, 1024 >> 8, 0), Bytes.repeated(1024, 6, 1, 2, 3, 4, 5, 6, 7, 128));
-        byte[] row = Bytes.module(Bytes.of(0, 0, 0, 0, 7), code, code, code, code, code, code, code);
-        CodeTables x = Bytes.typed(row);
-        Check.due("large: read()", x.read(), 0);
-        Check.due("large: place()", x.place(), row.length);
-        Check.due("large: told(6)", x.told(6), 7 * 1024);
-        Check.due("large: operand(6, 1023, 0)", x.operand(6, 1023, 0), 0x0102030405060780L);
-        Check.due("large: write()", x.write(), row.length);
-        byte[] back = new byte[row.length];
-        for (int i = 0; i < row.length; i++) {
-            back[i] = (byte) x.written(i);
+    private static void badWithoutModule() {
+        Check.sentence("Promise 13", "BAD when there is none.");
+        CodeTables x = new CodeTables();
+        Check.due("write() before the first read()", x.write(), BAD);
+        Bytes.type(x, Sample.bytes());
+        Check.due("write() of a tape that is not read", x.write(), BAD);
+        Check.due("read() behind it", x.read(), 0);
+        Check.due("write() behind it", x.write(), Sample.LENGTH);
+        for (int why = 1; why <= Faulty.LAST; why++) {
+            CodeTables y = Reading.read("the sample", Sample.bytes());
+            y.write();
+            Bytes.type(y, Faulty.sample(why));
+            y.read();
+            Check.due("write() behind fault " + why, y.write(), BAD);
+            Check.due("write() again behind fault " + why, y.write(), BAD);
         }
-        Check.holds("large: the very same bytes", Arrays.equals(row, back));
-        Check.due("large: written behind the end", x.written(row.length), BAD);
+    }
+
+    private static void byteOfTheLatest() {
+        Check.sentence("Promise 14", "Byte i of what was written latest");
+        CodeTables x = Reading.read("the sample", Sample.bytes());
+        x.write();
+        for (int i = 0; i < Sample.LENGTH; i++) {
+            Check.due("written(" + i + ")", x.written(i), Sample.bytes()[i] & 255);
+        }
+        CodeTables y = Reading.read("all bytes", new Parts().functions(1, Parts.function(256, everyByte())).bytes());
+        y.write();
+        for (int i = 0; i < 256; i++) {
+            Check.due("all bytes: written(" + (18 + 2 * i) + ")", y.written(18 + 2 * i), i);
+        }
+    }
+
+    private static byte[] everyByte() {
+        byte[] code = new byte[0];
+        for (int i = 0; i < 256; i++) {
+            code = Bytes.join(code, Bytes.of(5, i));
+        }
+        return code;
+    }
+
+    private static void writtenLatest() {
+        Check.sentence("Promise 14", "what was written latest");
+        CodeTables x = Reading.read("the sample", Sample.bytes());
+        x.write();
+        Bytes.type(x, EMPTY);
+        Check.due("written(4) stays while typing", x.written(4), 0x12);
+        x.read();
+        Check.due("written(4) stays behind a read", x.written(4), 0x12);
+        Check.due("written(132) stays behind a read", x.written(132), 1);
+        x.write();
+        Check.due("written(5) of the second one", x.written(5), 7);
+        Check.due("written(11) of the second one, which is shorter", x.written(11), BAD);
+        x.read();
+        Check.due("written(5) stays behind a fault", x.written(5), 7);
+        Check.due("write() without a module", x.write(), BAD);
+        Check.due("written(5) stays behind a refused write", x.written(5), 7);
+        Check.due("written(10) stays behind a refused write", x.written(10), 0);
+        Check.due("written(11) stays behind a refused write", x.written(11), BAD);
+        Bytes.type(x, Sample.bytes());
+        x.read();
+        Check.due("write() of a longer one", x.write(), Sample.LENGTH);
+        Check.due("written(132) of the longer one", x.written(132), 1);
+    }
+
+    private static void badWithoutByte() {
+        Check.sentence("Promise 14", "BAD when there is none.");
+        CodeTables x = new CodeTables();
+        Check.due("written(0) before the first write()", x.written(0), BAD);
+        Check.due("written(-1) before the first write()", x.written(-1), BAD);
+        x.write();
+        Check.due("written(0) behind a refused write()", x.written(0), BAD);
+        Bytes.type(x, Sample.bytes());
+        x.read();
+        Check.due("written(0) behind a read alone", x.written(0), BAD);
+        x.write();
+        Check.due("written(-1)", x.written(-1), BAD);
+        Check.due("written(0)", x.written(0), 82);
+        Check.due("written(132)", x.written(Sample.LENGTH - 1), 1);
+        Check.due("written(133)", x.written(Sample.LENGTH), BAD);
+        Check.due("written(134)", x.written(Sample.LENGTH + 1), BAD);
+        for (int far : new int[] {Integer.MIN_VALUE, -65536, -2, 4095, 4096, 65535, 65536, Integer.MAX_VALUE}) {
+            Check.due("written(" + far + ")", x.written(far), BAD);
+        }
     }
 }
