@@ -349,6 +349,11 @@ public final class FaultsTest {
         Reading.fine("the foreign one whose number is 32, in 0", thirtyTwo(0, 32));
         Reading.fine("the own one whose number is 30, in 31", thirtyTwo(31, 30));
         Reading.fault("the own one whose number is 31, in 31", 14, 7 + 31 * 4, thirtyTwo(31, 31));
+        byte[][] vectors = new byte[8][];
+        for (int k = 0; k < 8; k++) {
+            vectors[k] = Bytes.of(0, 5, 7, 1, 7, 7, 2, 7, 3, 7, 7, 7, 4, 7, 5);
+        }
+        Reading.fine("vectors of plain types, whose bytes are numbers of structures too", structures(vectors));
         Reading.fine("in an element type and in lists", new Parts().structures(1, Bytes.of(0, 1, 1)).elements(1, Bytes.of(6, 0))
             .functions(1, Bytes.of(0, 1, 6, 0, 1, 6, 0, 1, 6, 0, 0, 1, 0)).bytes());
     }
